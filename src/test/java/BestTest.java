@@ -97,6 +97,11 @@ public final class BestTest {
         best(x, 0, 8, 22, 0, 11, 1);
         x.saying();
         due("with 4", x.told(0), 4);
+        // 4 has it first at hour 1, 2 at hour 3: what it is worth then counts.
+        CHECK.house(x, "worth 3 h=1;worth 5 h=3;worth 7 h=11;worth 9 h=9", 1);
+        due("worth at hour 1", x.wants(4, 2, 0), 3);
+        due("worth at hour 3", x.rid(2, 4, 0), 5);
+        CHECK.house(x, "worth 1 h<99;worth 8 h=2;worth 19 h=5", 2);
         // From hour 1: 4 has it at once: right: 0 at 2 and back at 3.
         best(x, 4, 1, 1, 1, 1, 1);
         best(x, 4, 5, 1 + 1 + 20, 1, 1, 0);
@@ -261,6 +266,14 @@ public final class BestTest {
         meanIs(x, 4, 37, 2);
         CHECK.house(x, "worth 0 g=0", 2);
         meanIs(x, 12, 0, 1);
+        // It goes left at hour 1 alone, right or left else: with 1 or 2 behind the first, then with 0 or 1.
+        CHECK.house(x, "worth 4 g=0;lies 5 h=1", 3);
+        meanIs(x, 3, 6, 1);
+        x.saying();
+        due("hour", x.told(1), 1);
+        due("with 1", x.told(0), 1);
+        // At hour 1 to 0 for sure.
+        meanIs(x, 2, 4, 1);
     }
 
     private static void book() {
@@ -297,5 +310,14 @@ public final class BestTest {
         }
         x.saying();
         due("from now on", x.looked(), 1);
+        x = round(6, 6);
+        x.row(0, 2, 1);
+        x.row(1, 3, 1);
+        for (int k = 0; k < 5; k++) {
+            x.book(k == 2 || k == 3 ? 1 : 0);
+        }
+        due("by the hour", x.looked(), -5);
+        x.saying();
+        due("from hour 1 on, with the other one", x.looked(), 1);
     }
 }

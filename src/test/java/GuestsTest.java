@@ -18,6 +18,7 @@ public final class GuestsTest {
         row();
         feed();
         house();
+        houseBehindFaults();
         faults();
         deepest();
         clausesAndHousesFull();
@@ -238,6 +239,26 @@ public final class GuestsTest {
         CHECK.house(x, "lies 1 g=0", 2);
         due("no far in the newest", x.told(2), 1);
         due("worth is of the newest", x.of(0, 4), 1);
+    }
+
+    /** What a text with a fault said must not stay for the next one. */
+    private static void houseBehindFaults() {
+        HatGoes x = round(0, 0);
+        CHECK.house(x, "far 5;worth 9 g=0|g=1;lies 3 g=0;", -10 - 33);
+        CHECK.house(x, "lies 1 g=1", 0);
+        due("far", x.told(2), 1);
+        due("worth", x.of(0, 4), 1);
+        due("lies of 0", x.of(0, 3), 5);
+        due("lies of 1", x.of(1, 3), 6);
+        String manyClauses = "lies 1 g=1;".repeat(9);
+        String manyTests = "worth 1 " + "g=0|".repeat(22);
+        for (int k = 0; k < 6; k++) {
+            CHECK.house(x, manyClauses, -10 - 99);
+            CHECK.house(x, manyTests, -10 - 96);
+        }
+        CHECK.house(x, "lies 1 g=0;".repeat(8) + "lies 2 g=1", 1);
+        due("lies of 0", x.of(0, 3), 10);
+        due("lies of 1", x.of(1, 3), 7);
     }
 
     private static void fault(String text, int place) {

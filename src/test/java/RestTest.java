@@ -301,6 +301,7 @@ public final class RestTest {
             due("no item", x.item(tape, 0, 1), -13);
             due("nothing", x.tape(tape, -1, -1), 1);
             due("nothing there", x.item(tape, 0, 1), -11);
+            due("no item of it", x.read(tape, 0), HatGoes.NO);
             due("nothing again", x.tape(tape, -1, 99), 1);
         }
     }

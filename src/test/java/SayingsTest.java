@@ -188,6 +188,9 @@ public final class SayingsTest {
         // Away from 2: all but RR. Three: LLL comes to 2, and so do RR and whatever: 8 - 2 - 1.
         due("two sayings", x.keeps(2, 2), 3);
         due("three sayings", x.keeps(2, 3), 5);
+        x.hat(1);
+        due("the first guest, two sayings", x.keeps(0, 2), 2);
+        x.hat(0);
         CHECK.house(x, "far 0", 0);
         due("it stays", x.keeps(1, 12), 4096);
         HatGoes pair = round(0, 0);
@@ -235,6 +238,9 @@ public final class SayingsTest {
         lied(x, 0, 0, 0, 0);
         x = round(0, 0, 0, 0, 0);
         lied(x, 0, 0, 0, 0);
+        x.hat(3);
+        lied(x, 0, 0, 0, 0);
+        x.hat(0);
         tell(x, 0);
         lied(x, 0, 0, 0, 0);
         tell(x, 0, 4, 0, 4, 3, 2, 3);
