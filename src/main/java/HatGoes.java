@@ -1097,7 +1097,7 @@ public final class HatGoes {
         private boolean holds(int from, int end) {
             // The lowest bit is what was found last; those found ahead of it stand above.
             long found = 0;
-            for (int k = Math.max(from, 0); k < end && k < steps.length; k++) {
+            for (int k = from; k >= 0 && k < end && k < steps.length; k++) {
                 int step = steps[k];
                 if (step == NOT) {
                     found ^= 1;

@@ -6,14 +6,6 @@ public final class BestTest {
         CHECK.due(call, got, want);
     }
 
-    private static HatGoes round(int... kinds) {
-        HatGoes x = new HatGoes();
-        for (int k = 0; k < kinds.length; k++) {
-            due("guest " + k, x.guest(kinds[k], 0, 0), k);
-        }
-        return x;
-    }
-
     public static void main(String[] args) {
         wrong();
         wantsAndRid();
@@ -51,7 +43,7 @@ public final class BestTest {
 
     private static void wantsAndRid() {
         // To the right of 0 a liar gives it back at once; to the left it goes round: 4, 3, 2, 1, 0.
-        HatGoes x = round(1, 1, 1, 1, 1);
+        HatGoes x = CHECK.round(1, 1, 1, 1, 1);
         best(x, 0, 0, 0, -5, 0, -5);
         best(x, 0, 1, 1, 1, 1, 1);
         best(x, 0, 2, 1, 1, 1, 1);
@@ -67,20 +59,20 @@ public final class BestTest {
         best(x, 2, 4, 1, 1, 1, 1);
         best(x, 2, 6, 2, 1, 1, 0);
         // The mirror of that: the good neighbour sits to the left.
-        HatGoes y = round(0, 0, 0, 0, 0);
+        HatGoes y = CHECK.round(0, 0, 0, 0, 0);
         best(y, 0, 3, 2, 0, 1, 1);
         best(y, 0, 12, 6, 0, 3, 1);
     }
 
     private static void bothAsGood() {
-        HatGoes x = round(0, 1, 0);
+        HatGoes x = CHECK.round(0, 1, 0);
         // To the right: back at once from 1; to the left: 2 says 1, back at once too.
         best(x, 0, 12, 6, 1, 6, 1);
-        HatGoes pair = round(0, 0);
+        HatGoes pair = CHECK.round(0, 0);
         best(pair, 1, 12, 6, 1, 6, 1);
-        HatGoes alone = round(1);
+        HatGoes alone = CHECK.round(1);
         best(alone, 0, 12, 12, 1, 12, 1);
-        HatGoes stuck = round(0, 0, 0);
+        HatGoes stuck = CHECK.round(0, 0, 0);
         CHECK.house(stuck, "far 0", 0);
         best(stuck, 0, 12, 12, 1, 12, 1);
         best(stuck, 1, 12, 0, -5, 0, -5);
@@ -88,7 +80,7 @@ public final class BestTest {
 
     private static void byHours() {
         // Worth is told by the hour: 9 at hour 2, 20 at hour 5, else 1.
-        HatGoes x = round(1, 1, 1, 1, 1);
+        HatGoes x = CHECK.round(1, 1, 1, 1, 1);
         CHECK.house(x, "worth 1 h<99;worth 8 h=2;worth 19 h=5", 0);
         best(x, 0, 3, 10, 1, 1, 0);
         // Right, right: hours 0, 2, 4: 11; right, left: 0, 2 alone: 10. Left: hours 0, 5: 21.
@@ -116,7 +108,7 @@ public final class BestTest {
 
     private static void othersAsTheyDo() {
         // Told ones do by the hour: 1 gives it back to 0 at odd hours, but at hour 3 it goes on to 2.
-        HatGoes x = round(0, 6, 0, 0);
+        HatGoes x = CHECK.round(0, 6, 0, 0);
         x.row(1, 3, 1);
         // Left: 3 says 1, so back at hour 2. Right: 1 says 0 at hour 1, so back at hour 2 too.
         best(x, 0, 4, 2, 1, 2, 1);
@@ -132,7 +124,7 @@ public final class BestTest {
     }
 
     private static void two() {
-        HatGoes x = round(0, 0, 1, 1, 0, 0, 0);
+        HatGoes x = CHECK.round(0, 0, 1, 1, 0, 0, 0);
         due("below", x.two(-1), HatGoes.NONE);
         due("above", x.two(7), HatGoes.NONE);
         due("nobody", new HatGoes().two(0), HatGoes.NONE);
@@ -148,7 +140,7 @@ public final class BestTest {
         due("behind it for ever", x.two(4), -5);
         due("nothing changed", x.told(0), 0);
         // The hour counts for both.
-        HatGoes y = round(6, 6, 6, 6, 6);
+        HatGoes y = CHECK.round(6, 6, 6, 6, 6);
         y.row(0, 2, 1);
         y.row(1, 3, 1);
         // 0 4 3 2 ..; 2 1 0 1: hour 0: 4, 1; hour 1: 3, 0; hour 2: 2, 1; hour 3: 1, 2; hour 4: 0, 1.
@@ -200,7 +192,7 @@ public final class BestTest {
     private static void odds() {
         due("nobody", new HatGoes().odds(0, 0, 0), HatGoes.NO);
         // However they are: a kind says nothing of how often one lies.
-        HatGoes x = round(1, 0, 2);
+        HatGoes x = CHECK.round(1, 0, 2);
         due("guest below", x.odds(-1, 0, 0), HatGoes.NO);
         due("guest above", x.odds(3, 0, 0), HatGoes.NO);
         due("n below", x.odds(0, -1, 0), HatGoes.NO);
@@ -228,11 +220,11 @@ public final class BestTest {
         fraction(x, 2, 1, 1, 1);
         fraction(x, 1, 1, 0, 1);
         fraction(x, 0, 12, 1, 1);
-        HatGoes pair = round(0, 0);
+        HatGoes pair = CHECK.round(0, 0);
         fraction(pair, 1, 11, 1, 1);
         fraction(pair, 0, 11, 0, 1);
         // Seven tenths twelve times: nothing to cut.
-        HatGoes seven = round(0, 0, 0, 0, 0, 0, 0);
+        HatGoes seven = CHECK.round(0, 0, 0, 0, 0, 0, 0);
         CHECK.house(seven, "far 0;lies 2 g=0", 0);
         fraction(seven, 0, 12, 1, 1);
     }
@@ -244,7 +236,7 @@ public final class BestTest {
 
     private static void mean() {
         due("nobody", new HatGoes().mean(0, 0), HatGoes.NO);
-        HatGoes x = round(0, 0, 0);
+        HatGoes x = CHECK.round(0, 0, 0);
         due("n below", x.mean(-1, 0), HatGoes.NO);
         due("n above", x.mean(13, 0), HatGoes.NO);
         due("part below", x.mean(0, -1), HatGoes.NO);
@@ -298,7 +290,7 @@ public final class BestTest {
         x.book(1);
         due("nobody", x.looked(), HatGoes.STATE);
         // 0 1 2 1 2: said 1, 1, 0, 1, 0 ..
-        x = round(0, 0, 1, 0);
+        x = CHECK.round(0, 0, 1, 0);
         due("an empty book", x.looked(), -5);
         int[] said = {1, 1, 0, 1, 0, 1, 0, 1, 0, 1, 0, 1};
         for (int wrong = 0; wrong <= 12; wrong++) {
@@ -310,7 +302,7 @@ public final class BestTest {
         }
         x.saying();
         due("from now on", x.looked(), 1);
-        x = round(6, 6);
+        x = CHECK.round(6, 6);
         x.row(0, 2, 1);
         x.row(1, 3, 1);
         for (int k = 0; k < 5; k++) {

@@ -24,6 +24,15 @@ final class Check {
         }
     }
 
+    /** A new object with guests of these kinds round the table; v of each is its number. */
+    HatGoes round(int... kinds) {
+        HatGoes x = new HatGoes();
+        for (int k = 0; k < kinds.length; k++) {
+            due("guest " + k, x.guest(kinds[k], k, 0), k);
+        }
+        return x;
+    }
+
     /** Feeds a text sign by sign; the text ahead of it is empty. */
     void feeds(HatGoes x, String text) {
         for (int k = 0; k < text.length(); k++) {

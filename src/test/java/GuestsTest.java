@@ -90,30 +90,22 @@ public final class GuestsTest {
         due("says what is so and known", x.of(0, 5), 1);
     }
 
-    private static HatGoes round(int... kinds) {
-        HatGoes x = new HatGoes();
-        for (int k = 0; k < kinds.length; k++) {
-            due("guest " + k, x.guest(kinds[k], k, 0), k);
-        }
-        return x;
-    }
-
     private static void says() {
-        HatGoes x = round(0, 1, 3, 3, 3, 6, 3);
+        HatGoes x = CHECK.round(0, 1, 3, 3, 3, 6, 3);
         due("guest", x.of(0, 5), 1);
         due("liar", x.of(1, 5), 0);
         due("mild beside mild", x.of(2, 5), 1);
         due("mild beside told", x.of(4, 5), 1);
         due("told", x.of(5, 5), 0);
         due("the last mild beside the first guest", x.of(6, 5), 1);
-        x = round(3, 1, 3, 2, 3, 4, 3);
+        x = CHECK.round(3, 1, 3, 2, 3, 4, 3);
         due("mild beside liar", x.of(0, 5), 0);
         due("mild beside sly", x.of(2, 5), 0);
         due("mild beside spite", x.of(4, 5), 0);
         due("the last mild beside the first mild", x.of(6, 5), 1);
-        x = round(3, 5);
+        x = CHECK.round(3, 5);
         due("mild beside greedy", x.of(0, 5), 0);
-        x = round(4, 1, 4, 4, 4, 0, 4);
+        x = CHECK.round(4, 1, 4, 4, 4, 0, 4);
         due("the first spite beside the last", x.of(0, 5), 1);
         due("spite beside liar", x.of(2, 5), 0);
         due("spite beside spite", x.of(3, 5), 1);
@@ -142,7 +134,7 @@ public final class GuestsTest {
     }
 
     private static void toldByHours() {
-        HatGoes x = round(6);
+        HatGoes x = CHECK.round(6);
         int[] row = {1, 0, 0, 1, 1, 0, 1, 0};
         for (int part = 0; part < 8; part++) {
             due("row", x.row(0, part, row[part]), 0);
@@ -154,8 +146,8 @@ public final class GuestsTest {
     }
 
     private static void alone() {
-        due("mild alone", round(3).of(0, 5), 1);
-        due("spite alone", round(4).of(0, 5), 1);
+        due("mild alone", CHECK.round(3).of(0, 5), 1);
+        due("spite alone", CHECK.round(4).of(0, 5), 1);
     }
 
     private static void fact() {
@@ -186,7 +178,7 @@ public final class GuestsTest {
     }
 
     private static void row() {
-        HatGoes x = round(6, 3, 6);
+        HatGoes x = CHECK.round(6, 3, 6);
         due("guest below", x.row(-1, 0, 1), HatGoes.NONE);
         due("guest above", x.row(3, 0, 1), HatGoes.NONE);
         due("part below", x.row(0, -1, 1), HatGoes.NONE);
@@ -203,7 +195,7 @@ public final class GuestsTest {
         due("another one's own", x.row(2, 7, 1), 0);
         due("the first one's", x.row(0, 7, 0), 0);
         for (int kind = 0; kind < 6; kind++) {
-            due("kind " + kind, round(kind).row(0, 0, 1), HatGoes.STATE);
+            due("kind " + kind, CHECK.round(kind).row(0, 0, 1), HatGoes.STATE);
         }
     }
 
@@ -225,7 +217,7 @@ public final class GuestsTest {
     }
 
     private static void house() {
-        HatGoes x = round(0, 0, 0, 0, 0);
+        HatGoes x = CHECK.round(0, 0, 0, 0, 0);
         CHECK.house(x, "far 2", 0);
         due("far", x.told(2), 2);
         due("text is empty", x.count(4), 0);
@@ -243,7 +235,7 @@ public final class GuestsTest {
 
     /** What a text with a fault said must not stay for the next one. */
     private static void houseBehindFaults() {
-        HatGoes x = round(0, 0);
+        HatGoes x = CHECK.round(0, 0);
         CHECK.house(x, "far 5;worth 9 g=0|g=1;lies 3 g=0;", -10 - 33);
         CHECK.house(x, "lies 1 g=1", 0);
         due("far", x.told(2), 1);
@@ -358,14 +350,14 @@ public final class GuestsTest {
         due("houses", x.count(1), 6);
         String longest = "lies 1 " + "g=12|".repeat(18) + "g=1";
         CHECK.holds("a hundred signs", longest.length() == 100);
-        HatGoes y = round(0, 0);
+        HatGoes y = CHECK.round(0, 0);
         CHECK.house(y, longest, 0);
         due("its lies", y.of(1, 3), 6);
         due("no lies", y.of(0, 3), 5);
     }
 
     private static void lies() {
-        HatGoes x = round(0, 1, 2, 3);
+        HatGoes x = CHECK.round(0, 1, 2, 3);
         CHECK.house(x, "lies 1 g<3;lies 2 g<2;lies 2 g<1;worth 7 g=3;lies 0 g=3", 0);
         due("all", x.of(0, 3), 10);
         due("two", x.of(1, 3), 8);
@@ -378,7 +370,7 @@ public final class GuestsTest {
     }
 
     private static void worth() {
-        HatGoes x = round(0, 1, 2);
+        HatGoes x = CHECK.round(0, 1, 2);
         CHECK.house(x, "worth 30 g>0;worth 12 g=2;worth 0 g=1", 0);
         due("none of them", x.of(0, 4), 0);
         due("one", x.of(1, 4), 30);
@@ -419,7 +411,7 @@ public final class GuestsTest {
         test("s<2", 0, 0, 0);
         test("s>2", 0, 0, 0);
         test("h=0", 1, 1, 1);
-        HatGoes x = round(0);
+        HatGoes x = CHECK.round(0);
         CHECK.house(x, "worth 1 h=0;worth 2 h>10;lies 1 h=3", 0);
         for (int hour = 0; hour < 30; hour++) {
             int h = hour % 12;

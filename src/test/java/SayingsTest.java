@@ -6,14 +6,6 @@ public final class SayingsTest {
         CHECK.due(call, got, want);
     }
 
-    private static HatGoes round(int... kinds) {
-        HatGoes x = new HatGoes();
-        for (int k = 0; k < kinds.length; k++) {
-            due("guest " + k, x.guest(kinds[k], 0, 0), k);
-        }
-        return x;
-    }
-
     public static void main(String[] args) {
         saying();
         sayingFar();
@@ -32,7 +24,7 @@ public final class SayingsTest {
     private static void saying() {
         due("nobody", new HatGoes().saying(), HatGoes.STATE);
         // 0 GUEST, 1 LIAR, 2 GUEST: from 0 to 1, back to 0, and so on.
-        HatGoes x = round(0, 1, 0);
+        HatGoes x = CHECK.round(0, 1, 0);
         int[] said = {1, 0, 1, 0};
         int[] has = {1, 0, 1, 0};
         for (int k = 0; k < 4; k++) {
@@ -43,17 +35,17 @@ public final class SayingsTest {
         x.hat(2);
         due("the last one's", x.saying(), 1);
         due("round to the first", x.told(0), 0);
-        x = round(1, 0, 0);
+        x = CHECK.round(1, 0, 0);
         due("the first one's", x.saying(), 0);
         due("round to the last", x.told(0), 2);
-        x = round(1);
+        x = CHECK.round(1);
         due("alone", x.saying(), 0);
         due("still", x.told(0), 0);
         due("hour", x.told(1), 1);
     }
 
     private static void sayingFar() {
-        HatGoes x = round(0, 0, 1, 0, 0);
+        HatGoes x = CHECK.round(0, 0, 1, 0, 0);
         CHECK.house(x, "far 17", 0);
         due("far", x.saying(), 1);
         due("17 seats of 5 on", x.told(0), 2);
@@ -71,7 +63,7 @@ public final class SayingsTest {
         due("nobody", x.at(60, 1), HatGoes.STATE);
         due("nobody to say it", x.at(0, 10), HatGoes.NONE);
         due("bad ahead of state", x.at(61, 0), HatGoes.BAD);
-        x = round(0, 0, 1);
+        x = CHECK.round(0, 0, 1);
         due("what below", x.at(1, -1), HatGoes.NONE);
         due("what between", x.at(1, 2), HatGoes.NONE);
         due("what between", x.at(1, 9), HatGoes.NONE);
@@ -94,7 +86,7 @@ public final class SayingsTest {
 
     private static void atBeyondTheLastHour() {
         // The told one goes on by hours, so what is asked has to count them.
-        HatGoes x = round(6, 0, 0, 0, 0, 0, 0);
+        HatGoes x = CHECK.round(6, 0, 0, 0, 0, 0, 0);
         x.row(0, 3, 1);
         CHECK.house(x, "far 0", 0);
         due("eight hours: one 1", x.at(8, 1), 7);
@@ -105,7 +97,7 @@ public final class SayingsTest {
     }
 
     private static void comes() {
-        HatGoes x = round(0, 0, 0, 1, 0);
+        HatGoes x = CHECK.round(0, 0, 0, 1, 0);
         due("below", x.comes(-1), HatGoes.NONE);
         due("above", x.comes(5), HatGoes.NONE);
         due("has it", x.comes(0), 0);
@@ -146,7 +138,7 @@ public final class SayingsTest {
     }
 
     private static void soonest() {
-        HatGoes x = round(1, 1, 1, 1, 1, 1, 1);
+        HatGoes x = CHECK.round(1, 1, 1, 1, 1, 1, 1);
         due("from below", x.soonest(-1, 0), HatGoes.NONE);
         due("from above", x.soonest(7, 0), HatGoes.NONE);
         due("to below", x.soonest(0, -1), HatGoes.NONE);
@@ -165,14 +157,14 @@ public final class SayingsTest {
         CHECK.house(x, "far 7", 1);
         due("itself", x.soonest(3, 3), 0);
         due("by none", x.soonest(3, 4), -5);
-        HatGoes even = round(0, 0, 0, 0);
+        HatGoes even = CHECK.round(0, 0, 0, 0);
         CHECK.house(even, "far 2", 0);
         due("across", even.soonest(1, 3), 1);
         due("the other half", even.soonest(1, 2), -5);
     }
 
     private static void keeps() {
-        HatGoes x = round(0, 0, 0, 0, 0);
+        HatGoes x = CHECK.round(0, 0, 0, 0, 0);
         due("below", x.keeps(-1, 1), HatGoes.NONE);
         due("above", x.keeps(5, 1), HatGoes.NONE);
         due("none ahead of bad", x.keeps(5, 13), HatGoes.NONE);
@@ -193,7 +185,7 @@ public final class SayingsTest {
         x.hat(0);
         CHECK.house(x, "far 0", 0);
         due("it stays", x.keeps(1, 12), 4096);
-        HatGoes pair = round(0, 0);
+        HatGoes pair = CHECK.round(0, 0);
         due("left is right", pair.keeps(1, 1), 0);
         due("left is right", pair.keeps(1, 0), 1);
     }
@@ -236,7 +228,7 @@ public final class SayingsTest {
         due("below", x.lied(-1), HatGoes.NONE);
         due("above", x.lied(4), HatGoes.NONE);
         lied(x, 0, 0, 0, 0);
-        x = round(0, 0, 0, 0, 0);
+        x = CHECK.round(0, 0, 0, 0, 0);
         lied(x, 0, 0, 0, 0);
         x.hat(3);
         lied(x, 0, 0, 0, 0);
@@ -259,14 +251,14 @@ public final class SayingsTest {
         lied(x, -5, -5, -5, -5);
         x.hat(1);
         lied(x, 1, 1, 2, 2);
-        HatGoes pair = round(0, 0);
+        HatGoes pair = CHECK.round(0, 0);
         tell(pair, 0, 1, 0, 1);
         lied(pair, 0, 3, 0, 7);
         CHECK.house(pair, "far 2", 0);
         lied(pair, -5, -5, -5, -5);
         tell(pair, 0, 0, 0);
         lied(pair, 0, 2, 0, 3);
-        HatGoes four = round(0, 0, 0, 0);
+        HatGoes four = CHECK.round(0, 0, 0, 0);
         CHECK.house(four, "far 3", 0);
         tell(four, 0, 1, 0, 3);
         lied(four, 1, 1, 0b001, 0b001);
