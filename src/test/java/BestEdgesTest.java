@@ -29,6 +29,7 @@ public final class BestEdgesTest {
         oddsWrong();
         mean();
         meanHours();
+        meanLies();
         meanLargest();
         meanWrong();
         book();
@@ -379,6 +380,24 @@ public final class BestEdgesTest {
         x.saying();
         meanIs(x, 11, 42, 1);
         meanIs(x, 12, 112, 1);
+    }
+
+    private static void meanLies() {
+        edges.says("MEAN of n: if they lie so: the mean of what WORTH");
+        // At hour 1 all lie for sure, else every other time; guest 0 alone is worth 4.
+        HatGoes x = Edges.housed(Edges.alike(GUEST, 3), "worth 4 g=0;lies 5 h=1");
+        meanIs(x, 2, 4, 1);
+        meanIs(x, 3, 6, 1);
+        x.saying();
+        x.hat(0);
+        // At hour 1 to guest 2 for sure, from there to 0 or 1.
+        meanIs(x, 2, 4, 1);
+        meanIs(x, 3, 6, 1);
+        Edges.house(x, "worth 4 g=2;lies 5 h=1");
+        meanIs(x, 2, 4, 1);
+        x.saying();
+        x.hat(0);
+        meanIs(x, 2, 2, 1);
     }
 
     private static void meanLargest() {

@@ -45,6 +45,7 @@ public final class HousesEdgesTest {
         sixHouses();
         full();
         faultKeeps();
+        faultLeavesNothing();
         textIsEmptyThen();
         noHouse();
         lies();
@@ -540,6 +541,36 @@ public final class HousesEdgesTest {
         due("no other house", x.count(1), 1);
         due("a fault at 0", x.house(), -10);
         due("it holds", x.told(2), 4);
+    }
+
+    private static void faultLeavesNothing() {
+        edges.says("The newest HOUSE holds");
+        HatGoes x = Edges.alike(0, 2);
+        due("a fault", Edges.house(x, "far 5;worth 9 g<9;lies 3 g<9;"), -10 - 29);
+        due("a house", Edges.house(x, "lies 1 g=1"), 0);
+        due("no far of the fault", x.told(2), 1);
+        due("no worth of the fault", x.of(0, 4), 1);
+        due("no lies of the fault", x.of(0, 3), 5);
+        due("its own lies", x.of(1, 3), 6);
+        String clauses = "lies 1 g=1;".repeat(9);
+        due("many clauses and a fault", Edges.house(x, clauses), -10 - 99);
+        for (int k = 0; k < 2; k++) {
+            String tests = "worth 1 " + "g=0|".repeat(22);
+            due("many tests and a fault", Edges.house(x, tests), -10 - 96);
+        }
+        due("a house", Edges.house(x, "lies 4 g=0;worth 3 g=1"), 1);
+        due("its own lies", x.of(0, 3), 9);
+        due("its own lies", x.of(1, 3), 5);
+        due("its own worth", x.of(0, 4), 0);
+        due("its own worth", x.of(1, 4), 3);
+        // More steps of texts with faults than one house has room for.
+        HatGoes y = Edges.alike(0, 2);
+        for (int k = 0; k < 4; k++) {
+            due("many tests and a fault", Edges.house(y, "worth 1 " + "g=0|".repeat(22)), -10 - 96);
+        }
+        due("a house", Edges.house(y, "worth 3 g=1"), 0);
+        due("its own worth", y.of(0, 4), 0);
+        due("its own worth", y.of(1, 4), 3);
     }
 
     private static void textIsEmptyThen() {

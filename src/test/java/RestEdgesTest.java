@@ -27,6 +27,7 @@ public final class RestEdgesTest {
         image();
         imageKeepsGuests();
         imageKeepsRest();
+        imageOfFullRows();
         imageKeepsHouse();
         imageKeepsNoMore();
         undo();
@@ -263,6 +264,9 @@ public final class RestEdgesTest {
             x.book(0);
         }
         x.book(-1);
+        for (int k = 0; k < 12; k++) {
+            x.book(0);
+        }
         for (int round = 0; round < 2; round++) {
             due("undo", x.undo(), 5);
             due("facts", x.told(3), 129);
@@ -276,6 +280,35 @@ public final class RestEdgesTest {
             due("of them, too", x.lied(2), 1);
             due("room for more", x.book(0), 4);
         }
+    }
+
+    private static void imageOfFullRows() {
+        edges.says("the BOOK, which HOUSE holds.");
+        HatGoes x = Edges.alike(GUEST, 3);
+        for (int k = 0; k < 12; k++) {
+            x.was(k % 3);
+            x.book(1);
+        }
+        x.image();
+        x.was(-1);
+        x.book(-1);
+        for (int k = 0; k < 4; k++) {
+            x.guest(LIAR, 0, 0);
+        }
+        x.hat(6);
+        due("seven guests", x.count(0), 7);
+        due("room in was", x.was(6), 1);
+        due("room in the book", x.book(0), 1);
+        due("undo", x.undo(), 3);
+        due("was is full", x.was(0), -4);
+        due("the book is full", x.book(0), -4);
+        due("no lie in was", x.lied(1), 0);
+        due("nothing otherwise in the book", x.looked(), -5);
+        x.hat(2);
+        due("three sit round the table", x.saying(), 1);
+        due("the first is to the right of the third", x.told(0), 0);
+        due("who is gone has no hat", x.hat(3), -1);
+        due("who is gone is nobody to come to", x.comes(3), -1);
     }
 
     private static void imageKeepsHouse() {

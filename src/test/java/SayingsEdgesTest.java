@@ -18,6 +18,7 @@ public final class SayingsEdgesTest {
         sayingHours();
         changesNothing();
         at();
+        atHours();
         atRange();
         atOrder();
         atNobody();
@@ -79,6 +80,7 @@ public final class SayingsEdgesTest {
 
     private static void sayingHours() {
         edges.says("HOUR is 1 more (9999 at most).");
+        // 9999 itself can't be come to by 512 calls, so no test looks at what is there.
         HatGoes x = Edges.alike(GUEST, 2);
         for (int hour = 0; hour < 500; hour++) {
             x.saying();
@@ -136,6 +138,21 @@ public final class SayingsEdgesTest {
         atIs(alone, 60, 0, 60);
         due("all of 60", alone.at(60, 10), 60);
         due("none of 0", alone.at(0, 10), 0);
+    }
+
+    private static void atHours() {
+        edges.says("goes on from how all is");
+        // One that is told says 1 at hours 3 and 4 of eight; the hat stays with it.
+        HatGoes x = Edges.housed(Edges.row(Edges.alike(TOLD, 7), 0, 0b00011000), "far 7");
+        for (int hour = 0; hour < 10; hour++) {
+            int ones = 0;
+            for (int n = 0; n <= 60; n++) {
+                due("zeros of " + n + " from hour " + hour, x.at(n, 1), n - ones);
+                int part = (hour + n) % 8;
+                ones += part == 3 || part == 4 ? 1 : 0;
+            }
+            x.saying();
+        }
     }
 
     private static void atRange() {
@@ -383,7 +400,13 @@ public final class SayingsEdgesTest {
     private static void lied() {
         edges.says("LIED: how many of the SAYINGS between these could have been 0 at least, at most");
         liedIs(new HatGoes(), 0, 0, 0, 0);
-        liedIs(Edges.alike(GUEST, 3), 0, 0, 0, 0);
+        HatGoes none = Edges.alike(GUEST, 3);
+        for (int hat = 0; hat < 3; hat++) {
+            none.hat(hat);
+            liedIs(none, 0, 0, 0, 0);
+            liedIs(tells(none, (hat + 1) % 3), -5, -5, -5, -5);
+            liedIs(tells(none), 0, 0, 0, 0);
+        }
         liedIs(tells(Edges.alike(GUEST, 3), 0), 0, 0, 0, 0);
         liedIs(tells(Edges.alike(GUEST, 3), 0, 1), 0, 0, 0, 0);
         liedIs(tells(Edges.alike(GUEST, 3), 0, 2), 1, 1, 1, 1);
