@@ -220,7 +220,7 @@ public final class SayingsEdgesTest {
 
     private static void comesLate() {
         edges.says("the fewest SAYINGS (0 .. 60) by which it has THE HAT");
-        // No way of 7 guests is known that comes to one for the first time behind more than 58.
+        // A search found no evening that comes to a guest for the first time behind more than 58, so 60 stays unseen.
         int[] knows = {170, 43, 31, 11, 42, 35, 58};
         HatGoes x = new HatGoes();
         for (int known : knows) {
