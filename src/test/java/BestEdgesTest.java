@@ -21,6 +21,7 @@ public final class BestEdgesTest {
         wantsWrong();
         ridWrong();
         two();
+        twoLikewise();
         twoSixty();
         twoWrong();
         odds();
@@ -206,6 +207,22 @@ public final class BestEdgesTest {
         due("a pair", pair.two(1), -5);
         due("with one", pair.two(0), 0);
         due("alone", Edges.round(LIAR).two(0), 0);
+    }
+
+    private static void twoLikewise() {
+        edges.says("TWO HATS: a second one is with some GUEST now, and goes likewise");
+        // Both go far, both hear the house's hour, and each is told by who has it.
+        due("far 2 to the right, both", Edges.housed(Edges.alike(GUEST, 7), "far 2").two(3), -5);
+        due("far 2 to the right and left", Edges.housed(Edges.round(GUEST, GUEST, GUEST, GUEST, LIAR, LIAR, LIAR),
+            "far 2").two(4), 1);
+        // Guest 3 gives either hat to the left, but at hour 9 the first one to the right: it comes round to 2 then.
+        due("by a row, at hour 9", Edges.row(Edges.round(GUEST, GUEST, GUEST, TOLD, GUEST), 3, 0b10).two(3), 13);
+        due("at the same hour", Edges.housed(Edges.round(GREEDY, LIAR, LIAR, LIAR), "worth 6 h=0").two(2), 1);
+        HatGoes x = Edges.round(GUEST, GUEST, GUEST, LIAR, LIAR, LIAR, LIAR);
+        x.saying();
+        due("from where the first is now", x.two(3), 1);
+        due("the second is no other than before", x.two(4), -5);
+        due("the first did not go", x.told(0), 1);
     }
 
     private static HatGoes slowPair() {

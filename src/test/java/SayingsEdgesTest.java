@@ -30,6 +30,7 @@ public final class SayingsEdgesTest {
         keeps();
         keepsWrong();
         was();
+        wasIs();
         wasTwelve();
         wasWrong();
         lied();
@@ -40,6 +41,8 @@ public final class SayingsEdgesTest {
         stranger();
         strangerTwelve();
         strangerAlike();
+        strangerGoes();
+        strangerKnowing();
         strangerWrong();
         edges.end();
     }
@@ -363,6 +366,25 @@ public final class SayingsEdgesTest {
         due("the first again", x.was(6), 1);
     }
 
+    private static void wasIs() {
+        edges.says("WAS: told by hand: who had THE HAT, HOUR by HOUR, the first one now (12 at most; none at first).");
+        HatGoes x = tells(Edges.alike(GUEST, 5), 0, 4, 0);
+        x.saying();
+        due("told stays told, and the first is now still", x.lied(0), -5);
+        x.hat(0);
+        due("from the hour that is now", x.lied(2), 1);
+        due("told by hand alone: a saying adds none", x.count(2), 3);
+        x.was(-1);
+        due("none: nothing between", x.lied(1), 0);
+        x.was(0);
+        due("one: nothing between", x.lied(3), 0);
+        due("guests may come often", x.was(0), 2);
+        due("but it does not stay where far is 1", x.lied(0), -5);
+        Edges.house(x, "far 5");
+        due("it may where far goes round", x.lied(0), 0);
+        due("said so or not", x.lied(1), 1);
+    }
+
     private static HatGoes twelve() {
         return tells(Edges.alike(GUEST, 7), 0, 1, 0, 1, 2, 3, 4, 5, 6, 0, 6, 5);
     }
@@ -563,8 +585,50 @@ public final class SayingsEdgesTest {
         strangerIs(x, 1, 128, 128, 128);
         x.fact(7, false);
         strangerIs(x, 1, 128, 128, 0);
-        // Two alone: left is right, so the hat tells nothing.
-        strangerIs(Edges.alike(SLY, 2), 12, 256, 0, 0);
+    }
+
+    /** So many SLY ones who know it all, in a house. */
+    private static HatGoes knowers(int seats, String house) {
+        HatGoes x = new HatGoes();
+        for (int k = 0; k < seats; k++) {
+            x.guest(SLY, 0, 255);
+        }
+        return Edges.housed(x, house);
+    }
+
+    private static void strangerGoes() {
+        edges.says("how many there are by which THE HAT goes just as it truly does");
+        // Where left is right the hat goes alike whatever is said, so it tells nothing.
+        strangerIs(knowers(1, "far 1"), 12, 256, 0, 0);
+        strangerIs(knowers(2, "far 1"), 12, 256, 0, 0);
+        strangerIs(knowers(4, "far 2"), 12, 256, 0, 0);
+        strangerIs(knowers(6, "far 9"), 12, 256, 0, 0);
+        strangerIs(knowers(7, "far 0"), 12, 256, 0, 0);
+        strangerIs(knowers(7, "far 98"), 12, 256, 0, 0);
+        strangerIs(knowers(7, "far 99"), 12, 1, 255, 0);
+        strangerIs(knowers(3, "far 1"), 12, 1, 255, 0);
+        // Guest 0 has it back behind two sayings by either way, but it was with 2 or with 1 between them.
+        HatGoes x = new HatGoes();
+        x.guest(SLY, 0, 1);
+        x.guest(LIAR, 0, 0);
+        x.guest(GUEST, 0, 0);
+        due("by a lie", x.at(2, 0), 0);
+        strangerIs(x, 2, 128, 1, 0);
+        x.fact(0, true);
+        due("by no lie", x.at(2, 0), 0);
+        strangerIs(x, 2, 128, 1, 1);
+    }
+
+    private static void strangerKnowing() {
+        edges.says("(GUESTS KNOWING as they do)");
+        for (int knows = 0; knows <= 255; knows++) {
+            HatGoes x = new HatGoes();
+            for (int k = 0; k < 3; k++) {
+                x.guest(SLY, 0, knows);
+            }
+            Edges.facts(x, 0b01100101);
+            strangerIs(x, 12, 256 >> Integer.bitCount(knows), knows, knows & 0b01100101);
+        }
     }
 
     private static void strangerWrong() {
